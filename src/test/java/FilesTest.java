@@ -157,7 +157,8 @@ public final class FilesTest {
         try {
             return x.octet(runnable, i);
         } catch (ArrayIndexOutOfBoundsException e) {
-            return 1000;
+            // the machine's own words begin with "Index": the program is to throw by itself
+            return String.valueOf(e.getMessage()).startsWith("Index") ? 2000 : 1000;
         }
     }
 
