@@ -11,10 +11,15 @@ import java.util.TreeMap;
 
 /** Runs of made-up calls, of fixed seeds, against a second, plain writing of the promises. */
 public final class RandomRunsTest {
-    private static final int RUNS = 1500;
-    private static final int ROUNDS = 512;
+    private static final int RUNS = 3000;
+    /** Nothing is promised beyond. */
+    private static final int MOST_CALLS = 512;
+    private static final int MOST_CALLS_OF_A_ROUND = 32;
+    private static final int[] EXTREMES =
+        {Integer.MIN_VALUE, Integer.MAX_VALUE, -128, 128, 255, 256, 65536};
 
     public static void main(String[] args) {
+        Bench.watch();
         Map<String, Integer> seen = new TreeMap<>();
         for (int seed = 1; seed <= RUNS; seed++) {
             String wrong = new Run(seed, seen).go();
@@ -24,7 +29,8 @@ public final class RandomRunsTest {
             }
         }
         dueToBeSeen(seen);
-        System.out.println(RUNS + " runs of " + ROUNDS + " rounds each, all as the model answers");
+        System.out.println(RUNS + " runs of up to " + MOST_CALLS
+                + " calls each, all as the model answers");
         if (args.length > 0) {
             System.out.println(seen);
         }
@@ -60,7 +66,10 @@ public final class RandomRunsTest {
         private final Deque<Integer> waiting = new ArrayDeque<>();
         /** Whether every FILE becomes an EDITION at once, so that there is no room in the end. */
         private final boolean pressing;
+        /** Whether that is mostly RUNNABLE 1's, rather than a new RUNNABLE's. */
+        private final boolean pressingOne;
         private boolean brought = false;
+        private int calls = 0;
 
         Run(int seed, Map<String, Integer> seen) {
             random = new Random(seed);
@@ -69,13 +78,18 @@ public final class RandomRunsTest {
             model = new Model(budget);
             this.seen = seen;
             pressing = seed % 4 == 0;
+            pressingOne = seed % 8 == 0;
         }
 
         String go() {
-            for (int round = 1; round <= ROUNDS; round++) {
+            while (calls + MOST_CALLS_OF_A_ROUND <= MOST_CALLS) {
+                int before = calls;
                 String wrong = waiting.isEmpty() ? one() : bring();
                 if (wrong != null) {
-                    return "round " + round + ", budget " + budget + ": " + wrong;
+                    return "call " + calls + ", budget " + budget + ": " + wrong;
+                }
+                if (calls - before > MOST_CALLS_OF_A_ROUND) {
+                    return "a round of " + (calls - before) + " calls";
                 }
             }
             return null;
@@ -93,20 +107,41 @@ public final class RandomRunsTest {
 
         private String askForBrought() {
             brought = false;
-            int which = random.nextInt(3) == 0 ? 0 : runnable();
+            int which = whichToBecome();
             return check("runnable", which, real.runnable(which), model.runnable(which));
         }
 
+        private int whichToBecome() {
+            boolean first = model.runnables.isEmpty() && random.nextInt(20) != 0;
+            if (first || pressing && random.nextInt(4) != 0) {
+                return pressingOne && !first ? 1 : 0;
+            }
+            return random.nextInt(3) == 0 ? 0 : runnable();
+        }
+
+        private int extreme() {
+            return EXTREMES[random.nextInt(EXTREMES.length)];
+        }
+
         private int controller() {
+            if (random.nextInt(200) == 0) {
+                return extreme();
+            }
             return random.nextInt(40) == 0 ? random.nextInt(12) - 2 : random.nextInt(3);
         }
 
         private int runnable() {
+            if (random.nextInt(200) == 0) {
+                return extreme();
+            }
             int some = random.nextInt(30) == 0 ? 25 : Math.max(1, model.runnables.size());
             return random.nextInt(60) == 0 ? random.nextInt(4) - 2 : 1 + random.nextInt(some);
         }
 
         private int place() {
+            if (random.nextInt(100) == 0) {
+                return extreme();
+            }
             return random.nextInt(20) == 0 ? random.nextInt(12) - 2 : random.nextInt(8);
         }
 
@@ -120,7 +155,7 @@ public final class RandomRunsTest {
             if (brought && (pressing || random.nextBoolean())) {
                 return askForBrought();
             }
-            if (random.nextInt(pressing ? 3 : 30) == 0) {
+            if (random.nextInt(model.runnables.isEmpty() || pressing ? 2 : 30) == 0) {
                 return newFile();
             }
             if (random.nextInt(3) == 0) {
@@ -198,7 +233,7 @@ public final class RandomRunsTest {
                     : check("run", r, real.run(c, r), model.callRun(c, r, false));
             wrong = wrong != null ? wrong
                     : check("handle", r, realHandle(c, r), model.handle(c, r));
-            return wrong != null ? wrong : state(c, r);
+            return wrong != null ? wrong : random.nextInt(3) == 0 ? state(c, r) : glance(c, r);
         }
 
         private int someMade(ModelController owner, int otherwise) {
@@ -259,6 +294,16 @@ public final class RandomRunsTest {
             }
         }
 
+        /** A little of what state() asks. */
+        private String glance(int c, int r) {
+            int what = random.nextInt(6);
+            int k = random.nextInt(4);
+            int p = random.nextInt(8);
+            String wrong = check("fault", what, real.fault(c, what), model.fault(c, what));
+            wrong = wrong != null ? wrong : check("cell", k, real.cell(c, r, k), model.cell(c, r, k));
+            return wrong != null ? wrong : check("port", p, real.port(c, p), model.port(c, p));
+        }
+
         /** All that can be asked without changing anything. */
         private String state(int c, int r) {
             for (int what = 0; what <= 5; what++) {
@@ -279,6 +324,7 @@ public final class RandomRunsTest {
         }
 
         private String check(String call, long told, long got, long want) {
+            calls++;
             seen.merge(call + " " + Math.min(1000, Math.max(-1000, want)), 1, Integer::sum);
             return got == want ? null
                     : call + " (" + told + ") answered " + got + ", due is " + want;
