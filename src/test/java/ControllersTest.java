@@ -418,10 +418,22 @@ public final class ControllersTest {
         bench.due("its own port", Bench.ready(9, 0, 1, 4, 0, 3, 0, 14, 2, 18, 1).beside(0, 1), 16);
         bench.due("its own HANDLE",
                 Bench.ready(9, 0, 1, 4, 2, 16, 2, 17, 14, 2, 18, 1).beside(0, 1), 16);
+        // and by the ports and cells as they are now
         RunClasses y = Bench.ready(100, 3, 0, 14, 2, 18, 3);
         bench.due("port 0 is 0", y.beside(0, 1), 1);
         y.set(0, 0, 1);
         bench.due("port 0 is 1", y.beside(0, 1), 16);
+        for (int k = 0; k < 8; k++) {
+            // gives up once cell k has something, and fills it if it has not
+            RunClasses z = Bench.ready(100, 1, k, 14, 2, 18, 3, 0, 1, 2, k);
+            bench.due("cell " + k + " is 0", z.beside(0, 1), 1);
+            z.run(0, 1);
+            bench.due("cell " + k + " is 1", z.beside(0, 1), 16);
+            bench.due("as run() answers", z.run(0, 1), 16);
+            z.reset(0);
+            z.power(0);
+            bench.due("cell " + k + " is 0 again", z.beside(0, 1), 1);
+        }
     }
 
     private static void besideChangesNothing() {
