@@ -2,8 +2,9 @@ import java.util.Arrays;
 
 /**
  * Runnables of a car's controllers as class files: found by marked members, loaded for each
- * controller and edition by itself, gone through by counted steps, started in order at power-up,
- * replaced with kept data carried; whatever fails becomes the controller's fault.
+ * controller and edition by itself, gone through by counted steps with handles to ports that are
+ * good within one call alone, started in order at power-up, replaced with kept data carried;
+ * whatever fails becomes the controller's fault.
  */
 public final class RunClasses {
     private static final int CONTROLLERS = 8;
